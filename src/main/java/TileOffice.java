@@ -330,12 +330,13 @@ public final class TileOffice {
         return keep(made);
     }
 
+    // Never below 1, for it divides, too.
     private static int power(int base, int times) {
         int product = 1;
         for (int n = 0; n < times; n++) {
-            product *= base;
+            product *= Math.max(1, base);
         }
-        return product;
+        return Math.max(1, product);
     }
 
     // All CELLS on the way are looked at ahead, so that nothing is made if one of them lies wrongly.
@@ -359,7 +360,7 @@ public final class TileOffice {
 
     private int grownRow(Pattern source, Rule rule, int steps, int i) {
         int across = power(rule.columns, steps);
-        int above = i / Math.max(1, power(rule.rows, steps));
+        int above = i / power(rule.rows, steps);
         int offset = source.offsetAt(above) * across;
         int length = source.lengthAt(above) * across;
         int id = store.make(length, offset);
@@ -371,14 +372,14 @@ public final class TileOffice {
 
     // Goes down from the CELL of the pattern to (i, j) of what is grown, one step after the other.
     private int grownCell(Pattern source, Rule rule, int steps, int i, int j) {
-        int down = Math.max(1, power(rule.rows, steps));
-        int across = Math.max(1, power(rule.columns, steps));
+        int down = power(rule.rows, steps);
+        int across = power(rule.columns, steps);
         int cell = source.cellAt(i / down, Math.floorDiv(j, across));
-        for (int n = 0; n < steps; n++) {
+        for (int left = steps - 1; left >= 0; left--) {
             int a = i % down;
             int b = Math.floorMod(j, across);
-            down = Math.max(1, down / Math.max(1, rule.rows));
-            across = Math.max(1, across / Math.max(1, rule.columns));
+            down = power(rule.rows, left);
+            across = power(rule.columns, left);
             cell = rule.childOf(cell, a / down, b / across, kinds);
         }
         return cell;
