@@ -20,6 +20,8 @@ public final class FloorsTest {
         countedByMoves();
         leastCost();
         passedOver();
+        reckonedAhead();
+        manyChoices();
         forcedOnes();
         forcedInRounds();
         forcedAsFarAsTheyFit();
@@ -351,6 +353,51 @@ public final class FloorsTest {
         due.is("for nothing", x.cheapest(0), 0);
         // a: a (18), c (9); c: a is 9 and passed over, c (0).
         due.is("STEPS", x.about(8), 16);
+    }
+
+    // What waits is reckoned with the least COST of the kinds that have STOCK, and of no other.
+    private static void reckonedAhead() {
+        TileOffice x = new TileOffice();
+        x.kind(0, 1, false, 4, 'a');
+        x.kind(0, 1, false, 5, 'b');
+        x.kind(0, 1, false, 0, 'c');
+        x.floor(1, 2);
+        x.stock(0, 0, 9);
+        x.stock(0, 1, 9);
+        due.is("the least", x.cheapest(0), 8);
+        // a: a (8), b is passed over (9); b is passed over, for 4 at least come.
+        due.is("STEPS", x.about(8), 2);
+        x.place(0, 0, 0, 1, 0);
+        due.is("a GIVEN one counts nowhere", x.cheapest(0), 4);
+        due.is("STEPS", x.about(8), 3);
+    }
+
+    private static void manyChoices() {
+        TileOffice x = new TileOffice();
+        for (int k = 0; k < 40; k++) {
+            int right = k == 39 ? 15 : 0;
+            x.kind(Due.edges(0, right, 0, 0), 4, true, k, Due.name("k" + (char) ('a' + k % 26) + (char) ('a' + k / 26)));
+        }
+        x.floor(1, 3);
+        for (int k = 0; k < 40; k++) {
+            x.stock(0, k, 1);
+        }
+        x.place(0, 0, 0, 39, 0);
+        due.is("a FILL", x.fill(0), 1);
+        due.is("the only kind with 15, its 15 at the left", x.shown(0, 0, 1), 8 * 39 + 2);
+        due.is("beside it the first", x.shown(0, 0, 2), 0);
+        due.is("two MOVES of it, and the others in 8 each", x.fills(0, 1000), 2 * 39 * 8);
+        due.is("the latest", x.shown(0, 0, 1), 8 * 39 + 4);
+        due.is("the latest", x.shown(0, 0, 2), 8 * 38 + 7);
+        x.place(0, 0, 0, -1, 0);
+        x.floor(1, 1);
+        x.stock(1, 39, 1);
+        due.is("of the last kind alone", x.fills(1, 1000), 8);
+        for (int k = 0; k < 39; k++) {
+            x.stock(1, k, 1);
+        }
+        due.is("of all", x.fills(1, 1000), 320);
+        due.is("the last", x.shown(1, 0, 0), 319);
     }
 
     private static void forcedOnes() {

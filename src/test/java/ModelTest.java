@@ -10,17 +10,18 @@ public final class ModelTest {
     private final int theme;
     private final int colours;
     private String call = "";
+    private int calls = 0;
     private static int asked = 0;
     private static int wrong = 0;
 
     private ModelTest(long seed) {
         random = new Random(seed);
-        theme = (int) (seed % 5);
+        theme = (int) (seed % 7);
         colours = 1 + random.nextInt(4);
     }
 
     public static void main(String[] args) {
-        int runs = args.length > 0 ? Integer.parseInt(args[0]) : 600;
+        int runs = args.length > 0 ? Integer.parseInt(args[0]) : 700;
         int first = args.length > 1 ? Integer.parseInt(args[1]) : 0;
         for (int seed = first; seed < first + runs && wrong < 20; seed++) {
             new ModelTest(seed).run(seed);
@@ -32,16 +33,84 @@ public final class ModelTest {
     }
 
     private void run(long seed) {
-        for (int n = 0; n < 512; n++) {
-            long[] pair = step(n);
-            asked++;
-            if (pair[0] != pair[1]) {
-                wrong++;
-                System.out.println("seed " + seed + ", call " + n + ": " + call + " answered " + pair[0] + ", due is " + pair[1]);
-                return;
+        boolean good = true;
+        while (good && calls < 512) {
+            if (theme == 5 && calls == 0) {
+                good = puzzle();
+            } else if (theme == 6 && calls > 5 && random.nextInt(6) == 0) {
+                good = turnedCopy();
+            } else {
+                good = alike(step(calls));
             }
         }
-        compareAll(seed);
+        if (good) {
+            compareAll(seed);
+        } else {
+            wrong++;
+            System.out.println("seed " + seed + ", call " + calls + ": " + call + " answered otherwise than is due");
+        }
+    }
+
+    private boolean alike(long[] pair) {
+        calls++;
+        asked++;
+        return pair[0] == pair[1];
+    }
+
+    // A floor cut from one that is filled, each piece turned by chance, so that searches have something to find.
+    private boolean puzzle() {
+        int rows = 2 + random.nextInt(4);
+        int columns = 2 + random.nextInt(5);
+        int[][] down = new int[rows + 1][columns];
+        int[][] across = new int[rows][columns + 1];
+        int many = 2 + random.nextInt(6);
+        boolean good = alike(pair(x.floor(rows, columns), y.floor(rows, columns)));
+        for (int i = 0; i < rows; i++) {
+            for (int j = 0; j < columns; j++) {
+                down[i + 1][j] = i + 1 < rows ? random.nextInt(many) : 0;
+                across[i][j + 1] = j + 1 < columns ? random.nextInt(many) : 0;
+                int[] e = {down[i][j], across[i][j + 1], down[i + 1][j], across[i][j]};
+                int t = random.nextInt(4);
+                int edges = Due.edges(e[t], e[(t + 1) % 4], e[(t + 2) % 4], e[(t + 3) % 4]);
+                boolean mirrors = random.nextInt(5) == 0;
+                int cost = random.nextInt(9);
+                int k = y.kinds.size();
+                good &= alike(pair(x.kind(edges, 4, mirrors, cost, Due.name("p" + (char) ('a' + k % 26) + (char) ('a' + k / 26))),
+                    y.kind(edges, 4, mirrors, cost, Due.name("p" + (char) ('a' + k % 26) + (char) ('a' + k / 26)))));
+                if (random.nextInt(6) == 0) {
+                    good &= alike(pair(x.place(0, i, j, k, t), y.place(0, i, j, k, t)));
+                } else {
+                    good &= alike(pair(x.stock(0, k, 1), y.stock(0, k, 1)));
+                }
+            }
+        }
+        call = "a puzzle";
+        good &= alike(pair(x.forced(0), y.forced(0)));
+        good &= alike(pair(x.fill(0), y.fill(0)));
+        good &= alike(pair(x.fills(0, 3), y.fills(0, 3)));
+        return good && alike(pair(x.cheapest(0), y.cheapest(0)));
+    }
+
+    // A pattern and its copy by a MOVE, so that there is something congruent, and something to be found.
+    private boolean turnedCopy() {
+        int p = random.nextInt(Math.max(1, y.patterns.size()));
+        int rows = 1 + random.nextInt(4);
+        int columns = 1 + random.nextInt(4);
+        int m = random.nextInt(8);
+        boolean good = alike(pattern());
+        int q = y.patterns.size() - 1;
+        for (int i = 0; i < (m % 2 == 0 ? rows : columns); i++) {
+            good &= alike(insert(q, i, m % 2 == 0 ? columns : rows, 0));
+        }
+        good &= alike(pair(x.region(p, 0, 0, rows, columns), y.region(p, 0, 0, rows, columns)));
+        good &= alike(pair(x.turn(m), y.turn(m)));
+        good &= alike(pair(x.paste(q, 0, 0), y.paste(q, 0, 0)));
+        call = "a turned copy";
+        for (int k = 0; k < 4; k++) {
+            good &= alike(pair(x.find(p, q, k), y.find(p, q, k)));
+        }
+        good &= alike(pair(x.kept(q), y.kept(q)));
+        return good && alike(pair(x.congruent(p, q), y.congruent(p, q)));
     }
 
     private void compareAll(long seed) {
@@ -114,7 +183,7 @@ public final class ModelTest {
     // ---- calls
 
     private long[] step(int n) {
-        if (n < 6) {
+        if (n < 6 && theme != 5) {
             return n < 4 ? kind() : pattern();
         }
         int r = random.nextInt(100);
@@ -122,6 +191,8 @@ public final class ModelTest {
             case 0: return r < 60 ? patternCall() : r < 75 ? regionCall() : r < 90 ? seenCall() : anyCall();
             case 1: return r < 15 ? patternCall() : r < 60 ? ruleCall() : r < 90 ? seenCall() : anyCall();
             case 2: return r < 90 ? floorCall() : anyCall();
+            case 5: return r < 80 ? floorCall() : anyCall();
+            case 6: return r < 60 ? fullCall() : r < 75 ? seenCall() : anyCall();
             case 3: return r < 25 ? fullCall() : r < 45 ? regionCall() : r < 90 ? seenCall() : anyCall();
             default: return anyCall();
         }

@@ -16,6 +16,8 @@ public final class PatternsTest {
         undone();
         fortyChanges();
         sixThousandRows();
+        theLastRows();
+        sixtyRowsCopiedAndUndone();
         due.end("PatternsTest");
     }
 
@@ -291,5 +293,46 @@ public final class PatternsTest {
         due.yes("move goes", x.move(0, 0, 1));
         due.is("copy goes", x.copy(0), 3);
         due.is("undo goes", x.undo(), 39);
+    }
+
+    // Just one row is left each time: the calls that need one go, and once.
+    private static void theLastRows() {
+        for (int call = 0; call < 3; call++) {
+            TileOffice x = office();
+            for (int i = 0; i < 20; i++) {
+                x.insert(0, i, 1, 0);
+            }
+            x.put(0, 0, 0, 0, 0);
+            x.region(0, 0, 0, 20, 1);
+            for (int n = 0; n < 298; n++) {
+                x.paste(0, 0, 0);
+            }
+            due.is("18 of 19", x.paste(0, 2, 0), 18);
+            due.is("ROWS MADE", x.about(4), 5999);
+            for (int n = 0; n < 2; n++) {
+                boolean went = call == 0 ? x.insert(0, 0, 3, 0) : call == 1 ? x.put(0, 0, 0, -1, 0) : x.shade(0, 2, 0, 5);
+                due.is("the last row, call " + call, went, n == 0);
+            }
+            due.is("ROWS MADE", x.about(4), 6000);
+        }
+    }
+
+    private static void sixtyRowsCopiedAndUndone() {
+        TileOffice x = office();
+        for (int i = 0; i < 60; i++) {
+            x.insert(0, i, 1, 0);
+        }
+        due.is("copy", x.copy(0), 1);
+        due.yes("the last row, too", x.shares(0, 59, 1, 59));
+        for (int n = 0; n < 85; n++) {
+            x.put(0, n % 60, 0, 0, 0);
+        }
+        for (int n = 39; n >= 0; n--) {
+            due.is("undo", x.undo(), n);
+        }
+        for (int i = 0; i < 60; i++) {
+            due.is("as ahead of the latest 40", x.at(0, i, 0, 0), i < 45 ? 0 : -1);
+            due.is("shared", x.shares(0, i, 1, i), i >= 45);
+        }
     }
 }

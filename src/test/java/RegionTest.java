@@ -38,13 +38,17 @@ public final class RegionTest {
     private static void taken() {
         TileOffice x = office();
         due.is("all", x.region(0, 0, 0, 2, 3), 6);
+        x.put(1, 3, 3, 0, 0);
+        due.is("kind 0 in MOVE 0 with SHADE 0", x.region(1, 0, 0, 4, 4), 1);
+        x.undo();
+        x.region(0, 0, 0, 2, 3);
         due.is("rows", x.about(5), 2);
         due.is("columns", x.about(6), 3);
         due.is("beyond the corner", x.region(0, 1, 2, 20, 20), 1);
         due.is("ahead of the corner", x.region(0, -19, -19, 20, 20), 1);
         due.is("rows", x.about(5), 20);
         due.is("EMPTY ones do not count", x.region(1, 0, 0, 4, 4), 0);
-        due.is("no row is made", x.about(4), 18);
+        due.is("no row is made", x.about(4), 19);
         due.is("taking is no change", x.about(7), 18);
     }
 

@@ -11,6 +11,8 @@ public final class RulesTest {
         grownTurned();
         grownTwice();
         notSquare();
+        turnedFarIn();
+        fortyKindsInABlock();
         tooGreat();
         grownByNone();
         counted();
@@ -152,6 +154,46 @@ public final class RulesTest {
         due.is("turned by two", x.grow(0, 0, 1), 3);
         due.is("second", x.at(3, 0, 0, 0), 2);
         due.is("first", x.at(3, 0, 1, 0), 0);
+    }
+
+    // One CELL that LIES turned, at the very end of the pattern, or only after a step, is seen.
+    private static void turnedFarIn() {
+        TileOffice x = office();
+        x.rule(2, 3);
+        x.becomes(0, 2, 0, 0, 2, 1);
+        for (int i = 0; i < 10; i++) {
+            x.insert(0, i, 6, -3);
+        }
+        due.is("all EMPTY", x.grow(0, 0, 1), 1);
+        x.put(0, 9, 2, 0, 3);
+        due.is("the last one is turned", x.grow(0, 0, 1), -1);
+        x.put(0, 9, 2, 2, 0);
+        due.is("it becomes a turned one", x.grow(0, 0, 1), 2);
+        due.is("there", x.at(2, 18, 6, 1), 1);
+        due.is("two steps", x.grow(0, 0, 2), -1);
+    }
+
+    private static void fortyKindsInABlock() {
+        TileOffice x = new TileOffice();
+        for (int k = 0; k < 40; k++) {
+            x.kind(0, 4, true, 0, Due.name("k" + (char) ('a' + k % 26) + (char) ('a' + k / 26)));
+        }
+        x.rule(4, 4);
+        for (int k = 0; k < 40; k++) {
+            due.yes("becomes", x.becomes(0, k, 3, 3, 39 - k, k % 8));
+        }
+        x.pattern();
+        x.insert(0, 0, 10, 0);
+        for (int j = 0; j < 10; j++) {
+            x.put(0, 0, j, 30 + j, 0);
+        }
+        due.is("grow", x.grow(0, 0, 1), 1);
+        for (int j = 0; j < 10; j++) {
+            due.is("kind", x.at(1, 3, 4 * j + 3, 0), 9 - j);
+            due.is("MOVE", x.at(1, 3, 4 * j + 3, 1), (30 + j) % 8);
+        }
+        due.is("the last kind", x.foretold(0, 0, 1, 39), 1);
+        due.is("and back", x.foretold(0, 39, 60, 39), 1);
     }
 
     private static void tooGreat() {

@@ -18,6 +18,7 @@ public final class SeenTest {
         foundInUnevenRows();
         foundInOrder();
         foundFarIn();
+        greatOnes();
         due.end("SeenTest");
     }
 
@@ -210,6 +211,10 @@ public final class SeenTest {
         int u = full(x, "0.0", "0");
         due.is("not FULL", x.congruent(t, u), -1);
         due.is("nor that", x.congruent(u, u), -1);
+        int longer = full(x, "00", "000");
+        int square = full(x, "00", "00");
+        due.is("not FULL, though a part is like it", x.congruent(longer, square), -1);
+        due.is("nor the other way", x.congruent(square, longer), -1);
         due.is("no pattern", x.congruent(t, u + 1), -1);
         due.is("no pattern", x.congruent(-1, t), -1);
     }
@@ -276,6 +281,26 @@ public final class SeenTest {
             due.is("the " + k, x.find(p, q, k), 1000 * (k / 24) + 10 * (k / 8 % 3) + k % 8);
         }
         due.is("no more", x.find(p, q, 48), -1);
+    }
+
+    private static void greatOnes() {
+        TileOffice x = office();
+        for (int p = 0; p < 2; p++) {
+            x.pattern();
+            for (int i = 0; i < 60; i++) {
+                x.insert(p, i, 60, 0);
+            }
+        }
+        due.is("EMPTY", x.kept(0), 255);
+        due.is("the very same", x.find(0, 1, 7), 7);
+        x.put(0, 59, 59, 0, 0);
+        x.put(1, 59, 0, 0, 0);
+        due.is("one corner", x.kept(0), 1 | 1 << 7);
+        due.is("a quarter apart", x.congruent(0, 1), 1);
+        due.is("three quarters back", x.congruent(1, 0), 3);
+        due.is("found turned", x.find(0, 1, 0), 3);
+        due.is("found mirrored", x.find(0, 1, 1), 4);
+        due.is("no more", x.find(0, 1, 2), -1);
     }
 
     private static void foundFarIn() {
