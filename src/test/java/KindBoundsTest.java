@@ -42,18 +42,19 @@ public final class KindBoundsTest {
     }
 
     private static void refusedByANewObject() {
-        new Run("or there is none such (a new object)").refuses("named('a')", "edge(0, 0, 0)", "insert(0, 0, 1, 0)", "remove(0, 0)",
-            "move(0, 0, 0)", "put(0, 0, 0, -1, 0)", "shade(0, 0, 0, 0)", "at(0, 0, 0, 0)", "row(0, 0, 0)", "shares(0, 0, 0, 0)",
-            "copy(0)", "region(0, 0, 0, 1, 1)", "turn(0)", "paste(0, 0, 0)", "becomes(0, 0, 0, 0, -1, 0)", "grow(0, 0, 0)",
-            "foretold(0, 0, 0, 0)", "count(0, -1)", "fits(0)", "period(0, 0)", "kept(0)", "congruent(0, 0)", "find(0, 0, 0)",
-            "place(0, 0, 0, -1, 0)", "stock(0, 0, 0)", "fill(0)", "fills(0, 1)", "cheapest(0)", "forced(0)", "shown(0, 0, 0)",
-            "undo()");
+        new Run("or there is none such (a new object)").refuses("named('a')", "edge(0, 0, 0)", "insert(0, 0, 1, 0)",
+            "remove(0, 0)", "move(0, 0, 0)", "put(0, 0, 0, -1, 0)", "shade(0, 0, 0, 0)", "at(0, 0, 0, 0)", "row(0, 0, 0)",
+            "shares(0, 0, 0, 0)", "copy(0)", "region(0, 0, 0, 1, 1)", "turn(0)", "paste(0, 0, 0)", "becomes(0, 0, 0, 0, -1, 0)",
+            "grow(0, 0, 0)", "foretold(0, 0, 0, 0)", "count(0, -1)", "fits(0)", "period(0, 0)", "kept(0)", "congruent(0, 0)",
+            "find(0, 0, 0)", "place(0, 0, 0, -1, 0)", "stock(0, 0, 0)", "fill(0)", "fills(0, 1)", "cheapest(0)", "forced(0)",
+            "shown(0, 0, 0)", "undo()");
     }
 
     private static void movesAreEight() {
         Run run = new Run("A MOVE is 0 .. 7").go(FOUR);
         run.due("then(0, 0)", 0).due("then(7, 0)", 7).due("then(0, 7)", 7).due("then(7, 7)", 0);
-        run.refuses("then(-1, 0)", "then(8, 0)", "then(0, -1)", "then(0, 8)", "then(MIN, 0)", "then(MAX, 0)", "then(0, MIN)", "then(0, MAX)");
+        run.refuses("then(-1, 0)", "then(8, 0)", "then(0, -1)", "then(0, 8)", "then(MIN, 0)", "then(MAX, 0)", "then(0, MIN)",
+            "then(0, MAX)");
         run.due("edge(0, 0, 4)", 0).due("edge(0, 7, 4)", 7);
         run.refuses("edge(0, -1, 4)", "edge(0, 8, 4)", "edge(0, MIN, 4)", "edge(0, MAX, 4)");
     }
@@ -73,8 +74,10 @@ public final class KindBoundsTest {
 
     private static void chainsCountBack() {
         Run run = new Run("a's counted back if b is mirrored; mirrored if just one of them is");
-        run.due("then(0, 4)", 4).due("then(1, 4)", 7).due("then(3, 4)", 5).due("then(1, 5)", 4).due("then(3, 5)", 6).due("then(2, 5)", 7);
-        run.due("then(4, 4)", 0).due("then(5, 4)", 3).due("then(7, 4)", 1).due("then(5, 5)", 0).due("then(4, 7)", 3).due("then(7, 5)", 2);
+        run.due("then(0, 4)", 4).due("then(1, 4)", 7).due("then(3, 4)", 5).due("then(1, 5)", 4).due("then(3, 5)", 6)
+            .due("then(2, 5)", 7);
+        run.due("then(4, 4)", 0).due("then(5, 4)", 3).due("then(7, 4)", 1).due("then(5, 5)", 0).due("then(4, 7)", 3)
+            .due("then(7, 5)", 2);
     }
 
     private static void quartersGoRound() {
@@ -125,20 +128,23 @@ public final class KindBoundsTest {
         for (int bit = 16; bit < 32; bit++) {
             run.refuses("kind(" + (1 << bit) + ", 4, false, 0, 'b')");
         }
-        run.refuses("kind(-1, 1, false, 0, 'b')", "kind(65536, 4, false, 0, 'b')", "kind(MAX, 4, false, 0, 'b')");
+        run.refuses("kind(-1, 1, false, 0, 'b')", "kind(-1, 4, false, 0, 'b')", "kind(65536, 4, false, 0, 'b')",
+            "kind(MAX, 4, false, 0, 'b')");
     }
 
     private static void turnsAreThree() {
         Run run = new Run("TURNS 1, 2 or 4");
         run.due("kind(0, 1, false, 0, 'a')", 0).due("kind(0, 2, false, 0, 'b')", 1).due("kind(0, 4, false, 0, 'c')", 2);
-        run.refuses("kind(0, 0, false, 0, 'd')", "kind(0, 3, false, 0, 'd')", "kind(0, 5, false, 0, 'd')", "kind(0, 8, false, 0, 'd')",
-            "kind(0, -1, false, 0, 'd')", "kind(0, -4, false, 0, 'd')", "kind(0, MIN, false, 0, 'd')", "kind(0, MAX, false, 0, 'd')");
+        run.refuses("kind(0, 0, false, 0, 'd')", "kind(0, 3, false, 0, 'd')", "kind(0, 5, false, 0, 'd')",
+            "kind(0, 8, false, 0, 'd')", "kind(0, -1, false, 0, 'd')", "kind(0, -4, false, 0, 'd')",
+            "kind(0, MIN, false, 0, 'd')", "kind(0, MAX, false, 0, 'd')");
     }
 
     private static void turnsOneWantsAllAlike() {
         Run run = new Run("with 1 all edges are alike").go("kind(0x7777, 1, false, 0, 'a')", "kind(0x0000, 1, true, 0, 'b')");
         run.refuses("kind(0x7776, 1, false, 0, 'c')", "kind(0x7767, 1, false, 0, 'c')", "kind(0x7677, 1, false, 0, 'c')",
-            "kind(0x6777, 1, false, 0, 'c')", "kind(0x6767, 1, false, 0, 'c')", "kind(0x7676, 1, true, 0, 'c')", "kind(0x6677, 1, false, 0, 'c')");
+            "kind(0x6777, 1, false, 0, 'c')", "kind(0x6767, 1, false, 0, 'c')", "kind(0x7676, 1, true, 0, 'c')",
+            "kind(0x6677, 1, false, 0, 'c')");
     }
 
     private static void turnsTwoWantsOppositeAlike() {
@@ -149,8 +155,10 @@ public final class KindBoundsTest {
     }
 
     private static void costs() {
-        Run run = new Run("a COST (0 .. 1000)").go("kind(0, 1, false, 0, 'a')", "kind(0x1111, 1, false, 1000, 'b')", "floor(1, 1)");
-        run.refuses("kind(0, 1, false, -1, 'c')", "kind(0, 1, false, 1001, 'c')", "kind(0, 1, false, MIN, 'c')", "kind(0, 1, false, MAX, 'c')");
+        Run run = new Run("a COST (0 .. 1000)").go("kind(0, 1, false, 0, 'a')", "kind(0x1111, 1, false, 1000, 'b')",
+            "floor(1, 1)");
+        run.refuses("kind(0, 1, false, -1, 'c')", "kind(0, 1, false, 1001, 'c')", "kind(0, 1, false, MIN, 'c')",
+            "kind(0, 1, false, MAX, 'c')");
         run.go("stock(0, 1, 1)").due("cheapest(0)", 1000).go("stock(0, 0, 1)").due("cheapest(0)", 0);
     }
 
@@ -180,10 +188,12 @@ public final class KindBoundsTest {
     private static void zerosAreLeftOut() {
         Run run = new Run("by the bytes of a long, the highest first, 0s left out");
         run.due("kind(0, 1, false, 0, " + (Due.name("ab") << 48) + ")", 0).due("kind(0, 1, false, 0, 'ba')", 1);
-        run.due("named('ab')", 0).due("named(" + (Due.name("ab") << 24) + ")", 0).due("named(" + ((long) 'a' << 56 | 'b') + ")", 0);
+        run.due("named('ab')", 0).due("named(" + (Due.name("ab") << 24) + ")", 0)
+            .due("named(" + ((long) 'a' << 56 | 'b') + ")", 0);
         run.due("named(" + (Due.name("ba") << 8) + ")", 1);
         run.refuses("kind(0, 1, false, 0, 'ab')", "kind(0, 1, false, 0, " + ((long) 'a' << 40 | 'b' << 8) + ")");
-        run.due("kind(0, 1, false, 0, " + (Due.name("zzzzzzzz") >>> 8 << 8) + ")", 2).due("named('zzzzzzz')", 2).due("named('zzzzzzzz')", -1);
+        run.due("kind(0, 1, false, 0, " + (Due.name("zzzzzzzz") >>> 8 << 8) + ")", 2).due("named('zzzzzzz')", 2)
+            .due("named('zzzzzzzz')", -1);
     }
 
     private static void noNameTwice() {
@@ -195,7 +205,8 @@ public final class KindBoundsTest {
     private static void namedOrNone() {
         Run run = new Run("The kind with this name; NONE").go("kind(0, 1, false, 0, 'abc')", "kind(0, 1, false, 0, 'b')");
         run.due("named('abc')", 0).due("named('b')", 1);
-        run.refuses("named('a')", "named('ab')", "named('abcd')", "named('c')", "named('cba')", "named('B')", "named(0)", "named(-1)");
+        run.refuses("named('a')", "named('ab')", "named('abcd')", "named('c')", "named('cba')", "named('B')", "named(0)",
+            "named(-1)");
     }
 
     private static void liesModuloTurns() {
@@ -209,7 +220,8 @@ public final class KindBoundsTest {
     }
 
     private static void liesNotMirrored() {
-        Run run = new Run("not mirrored if it does not MIRROR").go(FLAT, "kind(0x5454, 2, false, 7, 'two')", "kind(0, 1, false, 7, 'one')");
+        Run run = new Run("not mirrored if it does not MIRROR")
+            .go(FLAT, "kind(0x5454, 2, false, 7, 'two')", "kind(0, 1, false, 7, 'one')");
         for (int m = 0; m < 8; m++) {
             run.due("edge(0, " + m + ", 4)", m % 4).due("edge(1, " + m + ", 4)", m % 2).due("edge(2, " + m + ", 4)", 0);
             run.due("edge(0, " + m + ", 0)", (4 - m % 4) % 4);
@@ -218,6 +230,7 @@ public final class KindBoundsTest {
 
     private static void kindsThatAre() {
         Run run = new Run("Of a kind (there is none such)").go(FOUR, FLAT);
-        run.due("edge(1, 0, 1)", 1).refuses("edge(-1, 0, 0)", "edge(2, 0, 0)", "edge(40, 0, 0)", "edge(MIN, 0, 0)", "edge(MAX, 0, 0)");
+        run.due("edge(1, 0, 1)", 1).refuses("edge(-1, 0, 0)", "edge(2, 0, 0)", "edge(40, 0, 0)", "edge(MIN, 0, 0)",
+            "edge(MAX, 0, 0)");
     }
 }
