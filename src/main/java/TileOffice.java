@@ -592,7 +592,8 @@ public final class TileOffice {
         if (floor == null) {
             return NONE;
         }
-        search.run(floor, 1, false);
+        search.begin(floor, false);
+        search.explore(floor, 1);
         if (search.found > 0) {
             return 1;
         }
@@ -604,7 +605,8 @@ public final class TileOffice {
         if (floor == null || most < 1 || most > MOST_FILLS) {
             return NONE;
         }
-        search.run(floor, most, false);
+        search.begin(floor, false);
+        search.explore(floor, most);
         return search.known ? search.found : -2;
     }
 
@@ -613,7 +615,8 @@ public final class TileOffice {
         if (floor == null) {
             return NONE;
         }
-        search.run(floor, Integer.MAX_VALUE, true);
+        search.begin(floor, true);
+        search.explore(floor, Integer.MAX_VALUE);
         if (!search.known) {
             return -3;
         }
@@ -1329,7 +1332,7 @@ public final class TileOffice {
         }
 
         int kindOf(int choice) {
-            return codeOf(choice) >> 3;
+            return choice >= 0 && choice < size ? codes[choice] >> 3 : NONE;
         }
 
         /** The colour at a side of what lies as a code says; ANY if nothing lies. */
@@ -1337,10 +1340,23 @@ public final class TileOffice {
             return code < 0 ? ANY : kinds.colour(code >> 3, code & 7, side);
         }
 
-        /** One word of the bits of all choices with this colour at this side. */
-        long withColour(int side, int colour, int word) {
-            int index = (side * COLOURS + colour) * WORDS + word;
+        /** One word of the bits of all choices. */
+        long all(int word) {
+            int index = ANY * WORDS + word;
             return index >= 0 && index < bits.length ? bits[index] : 0;
+        }
+
+        /** One word of the bits of all choices that have, at each side, the colour that is wanted from a place of a row on. */
+        long fitting(int[] wanted, int first, int word) {
+            if (first < 0 || first > wanted.length - SIDES) {
+                return 0;
+            }
+            long some = -1L;
+            for (int side = 0; side < SIDES; side++) {
+                int index = (side * COLOURS + wanted[first + side]) * WORDS + word;
+                some &= index >= 0 && index < bits.length ? bits[index] : 0;
+            }
+            return some;
         }
     }
 
@@ -1376,7 +1392,7 @@ public final class TileOffice {
                 left[kind] = floor.stockOf(kind);
             }
             for (int word = 0; word < Choices.WORDS; word++) {
-                leftBits[word] = choices.withColour(0, Choices.ANY, word);
+                leftBits[word] = choices.all(word);
             }
             for (int place = 0; place < Floor.PLACES; place++) {
                 lookAround(place);
@@ -1423,19 +1439,11 @@ public final class TileOffice {
             return place >= 0 && place < Floor.PLACES && open[place] && codes[place] == NONE;
         }
 
-        private long fittingWord(int place, int word) {
-            long all = leftBits[word];
-            for (int side = 0; side < SIDES; side++) {
-                all &= choices.withColour(side, wanted[place * SIDES + side], word);
-            }
-            return all;
-        }
-
         private void recount(int place) {
             if (isWaiting(place)) {
                 int many = 0;
                 for (int word = 0; word < Choices.WORDS; word++) {
-                    many += Long.bitCount(fittingWord(place, word));
+                    many += Long.bitCount(leftBits[word] & choices.fitting(wanted, place * SIDES, word));
                 }
                 fitting[place] = many;
             }
@@ -1465,7 +1473,7 @@ public final class TileOffice {
                 return NONE;
             }
             for (int word = from >> 6; word < Choices.WORDS; word++) {
-                long bits = fittingWord(place, word);
+                long bits = leftBits[word] & choices.fitting(wanted, place * SIDES, word);
                 if (word == from >> 6) {
                     bits &= -1L << (from & 63);
                 }
@@ -1590,7 +1598,7 @@ public final class TileOffice {
             kinds = itsKinds;
         }
 
-        void run(Floor floor, int most, boolean forLeastCost) {
+        void begin(Floor floor, boolean forLeastCost) {
             floor.showNothing();
             board.begin(floor);
             depth = 0;
@@ -1601,14 +1609,6 @@ public final class TileOffice {
             found = 0;
             best = 0;
             known = true;
-            if (!board.givenOnesFit()) {
-                return;
-            }
-            if (board.openPlaces == 0) {
-                noteFill(floor);
-            } else {
-                explore(floor, most);
-            }
         }
 
         private int leastCostOn(Floor floor) {
@@ -1622,7 +1622,14 @@ public final class TileOffice {
         }
 
         // Each turn makes a STEP or goes back over one, so that there are never as many turns as the bound.
-        private void explore(Floor floor, int most) {
+        void explore(Floor floor, int most) {
+            if (!board.givenOnesFit()) {
+                return;
+            }
+            if (board.openPlaces == 0) {
+                noteFill(floor);
+                return;
+            }
             openDepth(0);
             for (int turn = 0; turn < MOST_TURNS; turn++) {
                 int choice = nextTry();

@@ -36,6 +36,7 @@ public final class FloorBoundsTest {
         mostOfFills();
         fillsThatAreShown();
         thirtyThousandSteps();
+        foundByTheLastStep();
         stepsOfALife();
         asMuchAsTheBest();
         leastCostOfStockAtFirst();
@@ -422,6 +423,43 @@ public final class FloorBoundsTest {
         run.due("cheapest(0)", -2).due("about(8)", 90000).go(ONE_STEP_MORE).due("fill(0)", 2).due("about(8)", 120000)
             .due("fills(0, 1)", -2);
         run.due("about(8)", 150000).due("cheapest(0)", -3).due("about(8)", 180000).go("place(0, 4, 1, -2, 0)").due("fill(0)", 0);
+    }
+
+    /**
+     * After one STEP where just one FITS, the first PLACE takes the only one of kind 16, which the last PLACE needs: 1 + 4 * (1 +
+     * 17 * (1 + 20 * (1 + 21))) STEPS in vain. Then it takes kind 17, and each of 6 STEPS finds its PLACE: the last is the
+     * 30,000th.
+     */
+    private static Run atLast(String sentence) {
+        String[] kinds = {"0x5555, 1, false", "0x2222, 4, false", "0x3333, 4, true", "0x3333, 4, true", "0x3333, 1, false",
+            "0x4444, 4, true", "0x4444, 4, true", "0x4444, 4, false", "0x6666, 4, true", "0x6666, 4, true", "0x6666, 4, false",
+            "0x6666, 1, false", "0x7777, 4, true", "0x7777, 4, true", "0x7777, 4, true", "0x8888, 1, false", "0x6971, 4, false",
+            "0x1111, 1, false"};
+        Run run = new Run(sentence);
+        for (int k = 0; k < kinds.length; k++) {
+            run.go("kind(" + kinds[k] + ", 0, 'k" + (char) ('a' + k) + "')");
+        }
+        run.go("floor(5, 8)");
+        for (int k = 0; k < kinds.length; k++) {
+            run.go("stock(0, " + k + ", " + (k == 16 ? 1 : 99) + ")");
+        }
+        int[][] rows = {{17, -1, -2, 1, -1, -2, 2, -1}, {-2, -2, -2, -2, -2, -2, -2, -2}, {5, -1, -2, 8, -1, -1, 12, -2}, {-2,
+            -2, -2, -2, -2, -2, -2, -2}, {0, -1, -2, -2, -2, -2, -2, -2}};
+        for (int n = 0; n < 40; n++) {
+            run.go("place(0, " + n / 8 + ", " + n % 8 + ", " + rows[n / 8][n % 8] + ", 0)");
+        }
+        return run;
+    }
+
+    private static void foundByTheLastStep() {
+        Run run = atLast("A search makes 30,000 STEPS at most (the last finds the FILL)").due("fill(0)", 1)
+            .due("about(8)", 30000).due("shown(0, 0, 1)", 136).due("shown(0, 2, 5)", 128);
+        run.due("fills(0, 1)", 1).due("about(8)", 60000).due("fills(0, 2)", -2).due("about(8)", 90000).due("shown(0, 2, 5)", 128);
+        // Nothing costs less than 0, so that all that is left is passed over, without a STEP.
+        run.due("cheapest(0)", 0).due("about(8)", 120000).due("shown(0, 2, 5)", 128).go("place(0, 4, 2, -1, 0)");
+        run.due("fill(0)", 2).due("shown(0, 2, 5)", -1).due("fills(0, 1)", -2).due("cheapest(0)", -3).due("shown(0, 2, 5)", -1)
+            .due("about(8)", 210000);
+        run.go("place(0, 4, 1, -2, 0)", "place(0, 4, 2, -2, 0)").due("fill(0)", 1).due("about(8)", 239999);
     }
 
     private static void stepsOfALife() {
